@@ -7,6 +7,7 @@ public final class PromiseTests {
     private static final String TWO = "q5;h3 0;h3 0;g0 9;g1 9;";
     private static final String THREE_STILL = "q0;h1 0;h1 0;h1 0;g0 99;g0 99;g0 99;";
     private static final String FOUR_STILL = "q0;h1 0;h1 0;h1 0;h1 0;g0 99;g0 99;g0 99;g0 99;";
+    private static final String SEVEN = "q0;h1 3;h1 4;h1 5;h1 6;h1 7;h1 8;h1 9;" + "g0 99;".repeat(7);
     private static final String BREAD = "q0;h1 20;h1 4;h1 4;h1 4;g3 99;g3 99;g0 99;";
 
     private static int wrong = 0;
@@ -49,7 +50,7 @@ public final class PromiseTests {
     public static void main(String[] args) {
         promise = 1; newObject();
         promise = 2; feed();
-        promise = 3; rowFaults(); rowStarts(); rowAtFaultChangesNothing(); emptyText();
+        promise = 3; rowFaults(); rowStarts(); rowAgain(); rowAtFaultChangesNothing(); emptyText();
         promise = 4; fault();
         promise = 5; toldOfTheRow();
         promise = 6; house();
@@ -228,6 +229,29 @@ public final class PromiseTests {
         }
     }
 
+    private static void rowAgain() {
+        GullDeeds x = told("q9;h1 9;h1 0;h1 9;g3 9;g0 9;g0 9;");
+        x.bread(0, 4);
+        x.day(3);
+        feedAll(x, "q9,9;h2 1;h2 2;g0 1;");
+        due("row() of two", x.row(), 2);
+        for (int what = 4; what < 6; what++) {
+            due("house(0, " + what + ")", x.house(0, what), 0);
+            due("house(1, " + what + ")", x.house(1, what), 0);
+        }
+        feedAll(x, "q5;h3 7;");
+        due("row() of one", x.row(), 1);
+        due("told(0)", x.told(0), 1);
+        due("told(2)", x.told(2), 0);
+        due("house(0, 1)", x.house(0, 1), 7);
+        feedAll(x, TWO);
+        x.row();
+        x.day(4);
+        due("logged(0, 0)", x.logged(0, 0), 3);
+        due("logged(3, 0)", x.logged(3, 0), 0);
+        due("logged(4, 0)", x.logged(4, 0), NONE);
+    }
+
     private static void rowAtFaultChangesNothing() {
         GullDeeds x = told(TWO);
         x.day(8);
@@ -302,6 +326,10 @@ public final class PromiseTests {
         due("told(12) of none", y.told(12), 0);
         due("told(13) of none", y.told(13), NONE);
         due("told(10) of none", y.told(10), 0);
+        GullDeeds z = told(SEVEN);
+        z.swap(0, 6);
+        int[] seven = {1, 7, 7, 0, 0, 0, 0, 127, 0, 0, 42, 2, 6, 6, 0, 0, 0, 1};
+        for (int what = 0; what < seven.length; what++) due("told(" + what + ") of seven", z.told(what), seven[what]);
         for (int what : new int[] {-1, 18, LOW, HIGH}) due("told(" + what + ")", x.told(what), OUTSIDE);
     }
 
@@ -407,6 +435,9 @@ public final class PromiseTests {
         GullDeeds y = told("q3;h3 5;g0 99;");
         y.day(1);
         due("house(0, 1): no head more without stock", y.house(0, 1), 5);
+        GullDeeds w = told("q4;h3 5;g0 99;");
+        due("day(1)", w.day(1), 0);
+        due("house(0, 1): the last head goes to it", w.house(0, 1), 4);
         GullDeeds z = told("q0,9;");
         due("day(1) of a row without houses", z.day(1), 0);
         due("day(30) of a row without houses", z.day(30), 135);
@@ -584,7 +615,7 @@ public final class PromiseTests {
 
     /** A day by draws is the deed that is drawn, and a day. */
     private static void drift() {
-        String[] rows = {"q9,0,14;h3 9;h2 4;h4 30;g0 99;g1 99;g2 97;", "q7;h5 20;g0 99;", "q3;"};
+        String[] rows = {"q9,0,14;h3 9;h2 4;h4 30;g0 99;g1 99;g2 97;", "q7;h5 20;g0 99;", "q3;", "q5;h2 20;h3 20;g0 99;g1 99;"};
         for (String row : rows) {
             int houses = told(row).told(1);
             for (int start : new int[] {0, 43, 2147483647}) {
@@ -667,6 +698,7 @@ public final class PromiseTests {
         x.day(30);
         x.day(30);
         due("undo(30) of days", x.undo(30), 30);
+        for (int i = 0; i < 20; i++) due("logged(" + i + ", 0) as it was", x.logged(i, 0), 29 - i);
         x.lend(1);
         x.keep(1);
         due("undo(1) behind keep", x.undo(1), NOT);
@@ -735,6 +767,10 @@ public final class PromiseTests {
         GullDeeds y = told("q99;h1 0;h1 3;h1 0;g0 9;g2 9;");
         due("redeemedBy(7)", y.redeemedBy(7), 1);
         due("redeemedBy(9)", y.redeemedBy(9), 3);
+        GullDeeds z = told("q99;" + "h1 0;".repeat(7) + "g1 9;".repeat(7));
+        due("redeemedBy(7) of seven", z.redeemedBy(7), 127);
+        z.day(7);
+        due("gull(6, 2) behind it", z.gull(6, 2), NONE);
         for (int n : new int[] {-1, 61, LOW, HIGH}) due("redeemedBy(" + n + ")", x.redeemedBy(n), OUTSIDE);
     }
 
@@ -794,6 +830,14 @@ public final class PromiseTests {
         x.pay(0, 5);
         due("clear(1) without one that has no debt", x.clear(1), 4);
         due("told(5)", x.told(5), 6);
+        GullDeeds y = told(SEVEN);
+        y.lend(3);
+        due("clear(1) of the first", y.clear(1), 1);
+        y.lend(38);
+        due("clear(0) of six", y.clear(0), 6);
+        due("clear(1) of six: the least set", y.clear(1), 63);
+        y.lend(1);
+        due("clear(1) of seven", y.clear(1), 127);
         for (int what : new int[] {-1, 2, LOW, HIGH}) due("clear(" + what + ")", x.clear(what), OUTSIDE);
     }
 
@@ -817,6 +861,13 @@ public final class PromiseTests {
         y.stone(1);
         due("bestSwap(6, 0): gull 0 at an empty one", y.bestSwap(6, 0), 1);
         due("bestSwap(1, 0) of TWO", told(TWO).bestSwap(7, 0), NONE);
+        GullDeeds w = told("q0;h1 0;h1 0;h9 0;h9 0;" + "g2 1;".repeat(2) + "g0 99;g0 99;");
+        w.stone(0);
+        w.stone(1);
+        due("bestSwap(1, 0): those that are out already do not count", w.bestSwap(1, 0), NONE);
+        GullDeeds v = told("q0;" + "h1 0;".repeat(6) + "h9 0;" + "g0 7;".repeat(5) + "g0 99;g0 8;");
+        due("bestSwap(7, 0) of seven", v.bestSwap(7, 0), 506);
+        due("bestSwap(7, 1) of seven", v.bestSwap(7, 1), 0);
         GullDeeds z = told("q0;h9 0;h1 0;g0 8;");
         due("bestSwap(1, 0): a free one cannot be swapped", z.bestSwap(1, 0), NONE);
         for (int n : new int[] {-1, 61, LOW, HIGH}) due("bestSwap(" + n + ", 0)", x.bestSwap(n, 0), OUTSIDE);
@@ -919,6 +970,21 @@ public final class PromiseTests {
         due("gales(0): the gull that is gone was not there", y.gales(0), 2);
         y.hear(0, 0, true);
         due("gales(0): the gull that is gone was there", y.gales(0), 0);
+        GullDeeds z = told(SEVEN);
+        due("gales(0) of seven", z.gales(0), 22);
+        z.hear(6, 5, true);
+        due("gales(1) with 6 at 5", z.gales(1), 56);
+        z.tear();
+        z.hear(3, 1, true);
+        due("gales(0) with 3 at 1", z.gales(0), 1);
+        due("gales(1) with 3 at 1", z.gales(1), 13);
+        z.tear();
+        z.hear(1, 4, true);
+        due("gales(1) with 1 at 4", z.gales(1), 14);
+        z.tear();
+        for (int g = 1; g < 6; g++) z.hear(g, g, true);
+        due("gales(0) with all but 0 and 6 at home", z.gales(0), 2);
+        due("gales(1) with all but 0 and 6 at home", z.gales(1), 6);
         for (int what : new int[] {-1, 2, LOW, HIGH}) due("gales(" + what + ")", x.gales(what), OUTSIDE);
     }
 
@@ -942,6 +1008,14 @@ public final class PromiseTests {
         GullDeeds w = told("q9;h1 0;h1 50;h1 50;h1 50;g0 99;g0 99;g0 99;g0 99;");
         w.day(7);
         due("listen(): nothing at house 0", w.listen(), 1);
+        GullDeeds v = told(SEVEN);
+        for (int g = 0; g < 5; g++) v.hear(g, g, true);
+        due("listen(): 56 or none", v.listen(), 5);
+        due("listen() again", v.listen(), 5);
+        v.tear();
+        v.swap(5, 6);
+        for (int g = 0; g < 5; g++) v.hear(g, g, true);
+        due("listen() once more", v.listen(), 5);
     }
 
     private static void write() {
@@ -972,6 +1046,10 @@ public final class PromiseTests {
         due("judge() behind a day: the second is otherwise", x.judge(), 1);
         x.undo(1);
         due("judge() behind undo", x.judge(), 2);
+        x.tear();
+        x.write(1, 4);
+        x.write(1, 4);
+        due("judge() of the first", x.judge(), 0);
     }
 
     private static void tear() {
