@@ -1,8 +1,5 @@
 /** For each promise its ordinary inputs, the edges that the document names, and wrong inputs, worked out by hand. */
-public final class PromiseTests {
-    private static final int NONE = -1, UNKNOWN = -1000000001, OUTSIDE = -1000000002, NOT = -1000000003, FULL = -1000000004;
-    private static final int LOW = Integer.MIN_VALUE, HIGH = Integer.MAX_VALUE;
-
+public final class PromiseTests extends Check {
     /** By day: house 0 comes to 0 2 1 3 2 4 3 2 1 0 .., house 1 to 2 1 5 4 8 7 11 and is put out on day 6. */
     private static final String TWO = "q5;h3 0;h3 0;g0 9;g1 9;";
     private static final String THREE_STILL = "q0;h1 0;h1 0;h1 0;g0 99;g0 99;g0 99;";
@@ -10,82 +7,44 @@ public final class PromiseTests {
     private static final String SEVEN = "q0;h1 3;h1 4;h1 5;h1 6;h1 7;h1 8;h1 9;" + "g0 99;".repeat(7);
     private static final String BREAD = "q0;h1 20;h1 4;h1 4;h1 4;g3 99;g3 99;g0 99;";
 
-    private static int wrong = 0;
-    private static int promise = 0;
-
-    private static void due(String call, int got, int want) {
-        if (got != want) {
-            wrong++;
-            System.out.println("promise " + promise + ": " + call + " answered " + got + ", due is " + want);
-        }
-    }
-
-    private static void feedAll(GullDeeds x, String text) {
-        for (int i = 0; i < text.length(); i++) x.feed(text.charAt(i));
-    }
-
-    private static GullDeeds told(String text) {
-        GullDeeds x = new GullDeeds();
-        feedAll(x, text);
-        x.row();
-        return x;
-    }
-
-    /** All of section 2 that can be asked, as one text. */
-    private static String picture(GullDeeds x) {
-        StringBuilder all = new StringBuilder();
-        for (int what = 4; what <= 14; what++) all.append(x.told(what)).append(' ');
-        for (int h = 0; h < x.told(1); h++) for (int what = 0; what < 6; what++) all.append(x.house(h, what)).append(' ');
-        for (int i = 0; i < x.told(14); i++) for (int what = 0; what < 3; what++) all.append(x.logged(i, what)).append(' ');
-        return all.toString();
-    }
-
-    private static void alike(String what, String got, String want) {
-        if (!got.equals(want)) {
-            wrong++;
-            System.out.println("promise " + promise + ": " + what + " is " + got + ", due is " + want);
-        }
-    }
-
     public static void main(String[] args) {
-        promise = 1; newObject();
-        promise = 2; feed();
-        promise = 3; rowFaults(); rowStarts(); rowAgain(); rowAtFaultChangesNothing(); emptyText();
-        promise = 4; fault();
-        promise = 5; toldOfTheRow();
-        promise = 6; house();
-        promise = 7; gull();
-        promise = 8; ahead();
-        promise = 9; logged();
-        promise = 10; dayTurns(); dayKinds(); dayRedeems(); dayPutsOut(); dayBounds(); dayRefused();
-        promise = 11; pay();
-        promise = 12; bread();
-        promise = 13; stone();
-        promise = 14; lend();
-        promise = 15; swap();
-        promise = 16; drift();
-        promise = 17; undoEach(); undoMany();
-        promise = 18; owes();
-        promise = 19; firstOut();
-        promise = 20; outBy();
-        promise = 21; redeemedBy();
-        promise = 22; loan();
-        promise = 23; clear();
-        promise = 24; bestSwap();
-        promise = 25; home();
-        promise = 26; mostBread();
-        promise = 27; sure();
-        promise = 28; hear();
-        promise = 29; gales();
-        promise = 30; listen();
-        promise = 31; write();
-        promise = 32; judge();
-        promise = 33; tear();
-        promise = 34; seed();
-        promise = 35; keep();
-        promise = 36; goBack();
-        System.out.println(wrong == 0 ? "PromiseTests: all answers are as due" : "PromiseTests: " + wrong + " answers are not as due");
-        if (wrong != 0) System.exit(1);
+        about("promise 1"); newObject();
+        about("promise 2"); feed();
+        about("promise 3"); rowFaults(); rowStarts(); rowAgain(); rowAtFaultChangesNothing(); emptyText();
+        about("promise 4"); fault();
+        about("promise 5"); toldOfTheRow();
+        about("promise 6"); house();
+        about("promise 7"); gull();
+        about("promise 8"); ahead();
+        about("promise 9"); logged();
+        about("promise 10"); dayTurns(); dayKinds(); dayRedeems(); dayPutsOut(); dayBounds(); dayRefused();
+        about("promise 11"); pay();
+        about("promise 12"); bread();
+        about("promise 13"); stone();
+        about("promise 14"); lend();
+        about("promise 15"); swap();
+        about("promise 16"); drift();
+        about("promise 17"); undoEach(); undoMany();
+        about("promise 18"); owes();
+        about("promise 19"); firstOut();
+        about("promise 20"); outBy();
+        about("promise 21"); redeemedBy();
+        about("promise 22"); loan();
+        about("promise 23"); clear();
+        about("promise 24"); bestSwap();
+        about("promise 25"); home();
+        about("promise 26"); mostBread();
+        about("promise 27"); sure();
+        about("promise 28"); hear();
+        about("promise 29"); gales();
+        about("promise 30"); listen();
+        about("promise 31"); write();
+        about("promise 32"); judge();
+        about("promise 33"); tear();
+        about("promise 34"); seed();
+        about("promise 35"); keep();
+        about("promise 36"); goBack();
+        end("PromiseTests");
     }
 
     private static void newObject() {
@@ -136,14 +95,6 @@ public final class PromiseTests {
         x.row();
         due("told(3) behind row()", x.told(3), 0);
         due("feed(113) behind row()", x.feed(113), 1);
-    }
-
-    private static void reads(String text, int answer, int place) {
-        GullDeeds x = new GullDeeds();
-        feedAll(x, text);
-        due("row() of \"" + text + "\"", x.row(), answer);
-        due("fault() of \"" + text + "\"", x.fault(), place);
-        due("told(3) behind \"" + text + "\"", x.told(3), 0);
     }
 
     private static void rowFaults() {
