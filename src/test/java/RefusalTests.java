@@ -17,6 +17,10 @@ public final class RefusalTests extends Check {
         due("OUTSIDE", GullDeeds.OUTSIDE, -1000000002);
         due("NOT", GullDeeds.NOT, -1000000003);
         due("FULL", GullDeeds.FULL, -1000000004);
+        about("what the refused calls come to");
+        int[] standing = {0, 0, 2, 1};
+        for (int h = 0; h < 4; h++) due("house(" + h + ", 2)", busy().house(h, 2), standing[h]);
+        due("told(17)", busy().told(17), 7);
         theRow();
         deeds();
         tried();
@@ -27,9 +31,9 @@ public final class RefusalTests extends Check {
         end("RefusalTests");
     }
 
-    /** Houses 0 held (bread, white behind a swap), 1 held, 2 empty with a gull, 3 free; deeds, a log, an image, letters. */
+    /** House 0 held by a gull that takes bread, 1 by a black back, 2 empty with a gull, 3 free; seven deeds, a log, an image, letters. */
     private static GullDeeds busy() {
-        GullDeeds x = told("q4,0,9;h3 20;h2 9;h1 4;h2 7;g3 90;g2 5;g1 9;");
+        GullDeeds x = told("q4,0,9;h3 20;h2 9;h1 4;h2 7;g3 90;g2 5;g1 99;");
         x.seed(77);
         x.day(3);
         x.keep(0);
