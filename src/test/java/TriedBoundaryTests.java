@@ -253,6 +253,18 @@ public final class TriedBoundaryTests extends Check {
         GullDeeds w = told("q0;h9 0;h9 0;h9 0;g0 8;g0 8;g2 1;");
         w.stone(0);
         due("bestSwap(1, 0): one is PUT OUT without, and by the best", w.bestSwap(1, 0), NONE);
+        about("BEST SWAP: two HOUSES, not one twice");
+        // House 0 has 6 good days. Did it begin anew, house 1 alone would be put out, early; so one with itself would do.
+        GullDeeds v = told("q9;h7 0;h9 0;h1 0;h1 0;g0 99;g0 50;g1 18;g1 18;");
+        v.lend(54);
+        v.day(6);
+        for (int k = 1; k < 3; k++) {
+            v.swap(k, k + 1);
+            v.swap(k, k + 1);
+        }
+        due("outBy(40)", v.outBy(40), 12);
+        due("bestSwap(40, 0)", v.bestSwap(40, 0), 102);
+        due("bestSwap(40, 1)", v.bestSwap(40, 1), 1);
     }
 
     private static void nothingChangesByTrying() {
