@@ -96,7 +96,7 @@ public final class GullDeeds {
             case 6: return now.putOut;
             case 7: return now.heldSet();
             case 8: return now.freeSet();
-            case 9: return now.emptySet();
+            case 9: return now.emptySet;
             case 10: return now.debtOfHeld();
             case 11: return now.astray();
             case 12: return now.gap();
@@ -198,7 +198,7 @@ public final class GullDeeds {
         if (!now.row.isHouse(h)) {
             return UNKNOWN;
         }
-        if (now.empty[h]) {
+        if (now.isEmpty(h)) {
             return NOT;
         }
         past.remember(now);
@@ -485,6 +485,10 @@ public final class GullDeeds {
         return number < least || number > most;
     }
 
+    private static boolean isIn(int set, int h) {
+        return (set >> h & 1) == 1;
+    }
+
     /** Why days cannot pass now; 0: they can. */
     private int refusalOfDays(int n) {
         if (isOutside(n, 1, MOST_DEED_DAYS)) {
@@ -545,14 +549,14 @@ public final class GullDeeds {
 
     /** The houses that the trial has put out: an empty one stays so, so they are those empty since. */
     private int newlyEmpty() {
-        return trial.emptySet() & ~now.emptySet();
+        return trial.emptySet & ~now.emptySet;
     }
 
     private int firstInTurn(int set, int firstTurn) {
         int houses = now.row.houses;
         for (int i = 0; i < houses; i++) {
             int h = (firstTurn + i) % houses;
-            if ((set >> h & 1) == 1) {
+            if (isIn(set, h)) {
                 return h;
             }
         }
@@ -754,11 +758,11 @@ public final class GullDeeds {
         int putOut;
         int cries;
         private int nextCry;
+        int emptySet;
         final int[] debt = new int[MOST_HOUSES];
         final int[] gullAt = new int[MOST_HOUSES];
         final int[] goodDays = new int[MOST_HOUSES];
         final int[] weight = new int[MOST_HOUSES];
-        final boolean[] empty = new boolean[MOST_HOUSES];
         private final int[] log = new int[3 * MOST_CRIES];
 
         State(Row told) {
@@ -772,12 +776,12 @@ public final class GullDeeds {
             putOut = 0;
             cries = 0;
             nextCry = 0;
+            emptySet = 0;
             for (int h = 0; h < MOST_HOUSES; h++) {
                 debt[h] = h < told.houses ? told.firstDebt[h] : 0;
                 gullAt[h] = h < told.gulls ? h : NONE;
                 goodDays[h] = 0;
                 weight[h] = 0;
-                empty[h] = false;
             }
         }
 
@@ -788,11 +792,11 @@ public final class GullDeeds {
             putOut = other.putOut;
             cries = other.cries;
             nextCry = other.nextCry;
+            emptySet = other.emptySet;
             System.arraycopy(other.debt, 0, debt, 0, MOST_HOUSES);
             System.arraycopy(other.gullAt, 0, gullAt, 0, MOST_HOUSES);
             System.arraycopy(other.goodDays, 0, goodDays, 0, MOST_HOUSES);
             System.arraycopy(other.weight, 0, weight, 0, MOST_HOUSES);
-            System.arraycopy(other.empty, 0, empty, 0, MOST_HOUSES);
             System.arraycopy(other.log, 0, log, 0, 3 * MOST_CRIES);
         }
 
@@ -881,7 +885,7 @@ public final class GullDeeds {
         }
 
         void evict(int h) {
-            empty[h] = true;
+            emptySet |= 1 << h;
             putOut++;
         }
 
@@ -900,38 +904,28 @@ public final class GullDeeds {
 
         // -- what is so
 
+        boolean isEmpty(int h) {
+            return isIn(emptySet, h);
+        }
+
         boolean isHeld(int h) {
-            return !empty[h] && gullAt[h] != NONE;
+            return !isEmpty(h) && gullAt[h] != NONE;
         }
 
         /** 0 held, 1 free, 2 empty. */
         int standing(int h) {
-            if (empty[h]) {
+            if (isEmpty(h)) {
                 return 2;
             }
             return gullAt[h] == NONE ? 1 : 0;
         }
 
-        private int setStanding(int wanted) {
-            int set = 0;
-            for (int h = 0; h < row.houses; h++) {
-                if (standing(h) == wanted) {
-                    set |= 1 << h;
-                }
-            }
-            return set;
-        }
-
         int heldSet() {
-            return setStanding(0);
+            return gullHeldSet() & ~emptySet;
         }
 
         int freeSet() {
-            return setStanding(1);
-        }
-
-        int emptySet() {
-            return setStanding(2);
+            return ((1 << row.houses) - 1) & ~gullHeldSet() & ~emptySet;
         }
 
         /** The houses that gulls hold, empty ones, too. */
@@ -966,7 +960,7 @@ public final class GullDeeds {
         boolean canClear(int set) {
             int sum = 0;
             for (int h = 0; h < row.houses; h++) {
-                if ((set >> h & 1) == 1) {
+                if (isIn(set, h)) {
                     if (!isHeld(h) || debt[h] == 0) {
                         return false;
                     }

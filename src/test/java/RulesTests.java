@@ -114,6 +114,25 @@ public final class RulesTests {
         }
         Matcher calls = Pattern.compile("\\b[A-Z][A-Za-z]*\\.[a-zA-Z]+").matcher(bare);
         while (calls.find()) hold("4: of the library: " + calls.group(), LIBRARY.contains(calls.group()));
+        copies(bare);
+        methodLengths(bare);
+    }
+
+    /** Rule 4 lists the copying of arrays of numbers alone. */
+    private static void copies(String bare) {
+        Matcher copied = Pattern.compile("System\\.arraycopy\\((?:\\w+\\.)?(\\w+), [^,]+, (?:\\w+\\.)?(\\w+),").matcher(bare);
+        int seen = 0;
+        while (copied.find()) {
+            seen++;
+            for (int side = 1; side <= 2; side++) {
+                boolean ofNumbers = Pattern.compile("\\b(int|long|char)\\[\\] " + copied.group(side) + "\\b").matcher(bare).find();
+                hold("4: arraycopy over arrays of numbers: " + copied.group(side), ofNumbers);
+            }
+        }
+        hold("4: every arraycopy is looked at", seen == bare.split("arraycopy", -1).length - 1);
+    }
+
+    private static void methodLengths(String bare) {
         int lines = 0;
         boolean within = false;
         for (String line : bare.split("\n")) {
