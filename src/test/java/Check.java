@@ -54,6 +54,20 @@ abstract class Check {
         return x;
     }
 
+    /** That there is no ROW, by all that can be asked without one. */
+    static void noRow(GullDeeds x) {
+        for (int what = 0; what <= 17; what++) due("told(" + what + ")", x.told(what), what == 13 ? NONE : 0);
+        due("house(0, 0)", x.house(0, 0), UNKNOWN);
+        due("gull(0, 0)", x.gull(0, 0), UNKNOWN);
+        due("ahead(0)", x.ahead(0), NOT);
+        due("day(1)", x.day(1), NOT);
+        due("drift(1)", x.drift(1), NOT);
+        due("lend(1)", x.lend(1), NOT);
+        due("undo(1)", x.undo(1), NOT);
+        due("goBack(0)", x.goBack(0), NOT);
+        due("logged(0, 0)", x.logged(0, 0), NONE);
+    }
+
     static void days(GullDeeds x, int n) {
         for (int left = n; left > 0; left -= 30) x.day(Math.min(30, left));
     }

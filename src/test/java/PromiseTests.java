@@ -49,15 +49,8 @@ public final class PromiseTests extends Check {
 
     private static void newObject() {
         GullDeeds x = new GullDeeds();
-        for (int what = 0; what <= 17; what++) due("told(" + what + ")", x.told(what), what == 13 ? NONE : 0);
+        noRow(x);
         due("fault()", x.fault(), NONE);
-        due("house(0, 0)", x.house(0, 0), UNKNOWN);
-        due("gull(0, 0)", x.gull(0, 0), UNKNOWN);
-        due("ahead(0)", x.ahead(0), NOT);
-        due("day(1)", x.day(1), NOT);
-        due("drift(1)", x.drift(1), NOT);
-        due("lend(1)", x.lend(1), NOT);
-        due("undo(1)", x.undo(1), NOT);
         due("stone(0)", x.stone(0), UNKNOWN);
         due("owes(0, 0)", x.owes(0, 0), UNKNOWN);
         due("firstOut(0)", x.firstOut(0), NONE);
@@ -74,7 +67,6 @@ public final class PromiseTests extends Check {
         due("write(0, 0)", x.write(0, 0), UNKNOWN);
         due("judge()", x.judge(), NONE);
         due("tear()", x.tear(), 0);
-        due("goBack(0)", x.goBack(0), NOT);
         due("seed(5)", x.seed(5), 0);
         due("keep(0)", x.keep(0), 1);
         due("seed(6)", x.seed(6), 5);
@@ -232,8 +224,7 @@ public final class PromiseTests extends Check {
             feedAll(x, text);
             due("row() of nothing", x.row(), 0);
             due("fault()", x.fault(), NONE);
-            for (int what = 0; what <= 17; what++) due("told(" + what + ")", x.told(what), what == 13 ? NONE : 0);
-            due("day(1)", x.day(1), NOT);
+            noRow(x);
         }
     }
 
